@@ -1,0 +1,26 @@
+/** Numbers that look random and are the same in every run. */
+final class Numbers {
+    private long state;
+
+    Numbers(long seed) {
+        state = seed * 0x9E3779B97F4A7C15L + 1;
+        below(2);
+        below(2);
+    }
+
+    /** A number from 0 to bound - 1. */
+    int below(int bound) {
+        state = state * 6364136223846793005L + 1442695040888963407L;
+        return (int) ((state >>> 33) % bound);
+    }
+
+    /** A number from least to most. */
+    int from(int least, int most) {
+        return least + below(most - least + 1);
+    }
+
+    /** True in so many of 100 cases. */
+    boolean percent(int cases) {
+        return below(100) < cases;
+    }
+}
