@@ -23,24 +23,32 @@ public final class SpanPainter {
     private static final int ALL_GANGS = (1 << MAX_GANGS) - 1;
     private static final int NONE = -1;
 
-    private final Text text = new Text();
+    private final Text text;
     private final Parser parser;
     private final AutoPlanner planner = new AutoPlanner();
     private final SafeSearch search = new SafeSearch();
     private final Ranking ranking = new Ranking();
     private final History history = new History();
     private final Output output = new Output();
-    private Bridge bridge = new Bridge();
-    private Bridge spare = new Bridge();
+    private Bridge bridge;
     private Plan plan;
+    /** Rows for texts that are read and for other settings; what they hold means nothing between two calls. */
+    private Bridge spare;
     private Plan draft;
     private int badKind = 0;
     private int badPosition = NOT_FOUND;
 
     public SpanPainter() {
-        plan = new Plan(bridge);
-        draft = new Plan(bridge);
-        parser = new Parser(text, spare, draft);
+        Text buffer = new Text();
+        Bridge current = new Bridge();
+        Bridge other = new Bridge();
+        Plan trial = new Plan(other);
+        text = buffer;
+        bridge = current;
+        plan = new Plan(current);
+        spare = other;
+        draft = trial;
+        parser = new Parser(buffer, other, trial);
     }
 
     // ---- text
@@ -61,7 +69,7 @@ public final class SpanPainter {
         if (length < 0 || length > text.size()) {
             throw new IllegalArgumentException("the buffer does not hold so many bytes");
         }
-        boolean legal = parser.read(text, length, spare, draft);
+        boolean legal = parser.read(length, spare, draft);
         badKind = parser.failureKind();
         badPosition = parser.failurePosition();
         text.clear();
@@ -962,7 +970,6 @@ public final class SpanPainter {
                 moment++;
             }
             rusts[moment] = rust;
-            guards[moment] = guard;
         }
 
         int rustAtStart(int span, int year) {
@@ -1361,7 +1368,7 @@ public final class SpanPainter {
         private static final int MAX_LETTERS = 8;
         private static final int MAX_DIGITS = 4;
 
-        private Text text;
+        private final Text text;
         private int length;
         private int start;
         private int end;
@@ -1374,8 +1381,7 @@ public final class SpanPainter {
             text = itsText;
         }
 
-        void begin(Text itsText, int itsLength) {
-            text = itsText;
+        void begin(int itsLength) {
             length = itsLength;
             start = 0;
             end = 0;
@@ -1518,8 +1524,8 @@ public final class SpanPainter {
             return failedAt;
         }
 
-        /** Reads the first bytes of a text into a bridge and a plan; returns whether they are legal. */
-        boolean read(Text text, int length, Bridge itsBridge, Plan itsPlan) {
+        /** Reads the first bytes of the text into a bridge and a plan; returns whether they are legal. */
+        boolean read(int length, Bridge itsBridge, Plan itsPlan) {
             bridge = itsBridge;
             plan = itsPlan;
             failure = 0;
@@ -1527,7 +1533,7 @@ public final class SpanPainter {
             bridge.reset();
             plan.start(bridge);
             names.clear();
-            tokens.begin(text, length);
+            tokens.begin(length);
             boolean legal = true;
             // A statement has at least one byte, so the length bounds their number.
             for (int statement = 0; legal && statement <= length; statement++) {

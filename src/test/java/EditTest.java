@@ -342,4 +342,28 @@ public final class EditTest {
         Due.is("undo()", painter.undo(), 0);
         unchanged(painter, "");
     }
+
+    static void promise54UndoInTheLargestBridge() {
+        StringBuilder text = new StringBuilder("bridge 12 4 0;lane la 1;lane lb 1;lane lc 1;lane ld 1;");
+        for (int span = 0; span < 12; span++) {
+            text.append("span s").append((char) ('a' + span)).append(" ld 10 0 1 99;");
+        }
+        text.append("gang ga 1 1;gang gb 1 1;gang gc 1 1;gang gd 1 1;gang ge 9 1;paint 10 sl gd;");
+        SpanPainter painter = Due.bridge(text.toString());
+        painter.setWeather(11, 3);
+        painter.setClosed(3, 11, true);
+        painter.setRate(11, 50);
+        painter.setSpeed(4, 8);
+        painter.unpaint(10, 11);
+        painter.paint(9, 11, 4);
+        painter.setWeather(0, 1);
+        for (int left = 6; left >= 0; left--) {
+            Due.is("undo()", painter.undo(), left);
+        }
+        Due.is("capacity(4, 11)", painter.capacity(4, 11), 900);
+        Due.is("setClosed(3, 11, false)", painter.setClosed(3, 11, false), Due.UNCHANGED);
+        Due.is("rustAfter(11, 11)", painter.rustAfter(11, 11), 1);
+        Due.is("rustAfter(11, 8)", painter.rustAfter(11, 8), 9);
+        Due.text("the plan", Due.plan(painter), "10:11/3;");
+    }
 }

@@ -220,4 +220,34 @@ public final class SearchTest {
                 + "gang g 1 1;weather 0 200;weather 1 10;closed m 0;").extraDays(), 3);
         Due.is("no spans", new SpanPainter().extraDays(), 0);
     }
+
+    static void promise60To63InTheLargestBridge() {
+        StringBuilder text = new StringBuilder("bridge 12 4 0;lane la 1;lane lb 1;lane lc 1;lane ld 1;span sa lc 10 0 1 11;");
+        for (int span = 1; span < 11; span++) {
+            text.append("span s").append((char) ('a' + span)).append(" none 10 0 1 99;");
+        }
+        text.append("span sl ld 10 0 1 11;gang ga 1 1;gang gb 1 1;gang gc 1 1;gang gd 1 1;gang ge 2 1;");
+        // the first and the last span are past at 11; before 11 there are no days
+        for (int year = 0; year < 11; year++) {
+            text.append("weather ").append(year).append(" 0;");
+        }
+        SpanPainter painter = Due.bridge(text + "weather 11 6;");
+        // 11 of effort each, and only the last gang has 12 of capacity
+        Due.is("autoPast()", painter.autoPast(), 1);
+        Due.is("worstYear()", painter.worstYear(), 11);
+        Due.is("extraDays(): 10 of capacity at 9, 11 at 11", painter.extraDays(), 5);
+        Due.is("criticalGang()", painter.criticalGang(), 4);
+        Due.is("fewestGangs()", painter.fewestGangs(), 16);
+        Due.is("smallestShut()", painter.smallestShut(), Due.NOT_FOUND);
+        painter.setWeather(11, 11);
+        Due.is("smallestShut()", painter.smallestShut(), 2);
+        Due.is("fewestGangs(): 22 of capacity", painter.fewestGangs(), 16);
+        painter.setClosed(3, 11, true);
+        Due.is("smallestShut()", painter.smallestShut(), Due.NOT_FOUND);
+        // at 9 the last gang takes the first span (10 of effort), at 10 the last span (11)
+        Due.is("extraDays()", painter.extraDays(), 6);
+        painter.setClosed(3, 11, false);
+        painter.setSpeed(4, 1);
+        Due.is("fewestGangs(): a gang each", painter.fewestGangs(), 3);
+    }
 }

@@ -311,6 +311,21 @@ public final class TextTest {
         error(6, start + "paint 1 a g;paint 0 a g;paint 01 |a ?");
     }
 
+    static void promise03BytesBehindTheText() {
+        SpanPainter painter = new SpanPainter();
+        Due.feed(painter, "lanes");
+        Due.is("load(4): a word that goes on behind the text", painter.load(4), Due.BAD_TEXT);
+        Due.is("errorPosition()", painter.errorPosition(), 4);
+        Due.feed(painter, "lane a 99999;");
+        Due.is("load(11): a number that goes on behind the text", painter.load(11), Due.BAD_TEXT);
+        Due.is("errorKind()", painter.errorKind(), 3);
+        Due.feed(painter, "lane abcdefghi 1;");
+        Due.is("load(13)", painter.load(13), Due.BAD_TEXT);
+        Due.is("errorPosition()", painter.errorPosition(), 13);
+        Due.feed(painter, "span a none 1 0 1 9;;");
+        Due.is("load(20)", painter.load(20), 1);
+    }
+
     static void promise04ErrorKind() {
         SpanPainter painter = new SpanPainter();
         Due.is("before any load", painter.errorKind(), 0);
