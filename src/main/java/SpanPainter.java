@@ -1093,7 +1093,7 @@ public final class SpanPainter {
             return true;
         }
 
-        /** The capacity that a gang would have left after a painting more; less than 0 if it has too little. */
+        /** The capacity that a gang would have left after a painting more. */
         int capacityLeft(int year, int span, int gang) {
             return bridge.gangCapacity(gang, year) - gangLoad(gang, year) - spanEffort(span, year);
         }
@@ -1113,7 +1113,8 @@ public final class SpanPainter {
                     return 3;
                 }
             }
-            return capacityLeft(year, span, gang) < 0 ? 4 : 0;
+            int load = gangLoad(gang, year) + spanEffort(span, year);
+            return load > bridge.gangCapacity(gang, year) ? 4 : 0;
         }
     }
 
@@ -1352,10 +1353,6 @@ public final class SpanPainter {
                 }
             }
         }
-
-        int byteAt(int index) {
-            return index >= 0 && index < size ? bytes[index] : 0;
-        }
     }
 
     /** The tokens of a text, one after the other. */
@@ -1382,57 +1379,49 @@ public final class SpanPainter {
         }
 
         void begin(int itsLength) {
-            length = itsLength;
+            length = Math.min(itsLength, text.size);
             start = 0;
             end = 0;
             kind = END;
         }
 
         void next() {
-            while (end < length && isBlank(text.byteAt(end))) {
+            while (end < length && (text.bytes[end] == ' ' || text.bytes[end] == '\n')) {
                 end++;
             }
             start = end;
             if (end >= length) {
                 kind = END;
-            } else if (isLetter(text.byteAt(end))) {
-                readWord();
-            } else if (isDigit(text.byteAt(end))) {
-                readNumber();
-            } else {
-                kind = text.byteAt(end) == ';' ? SEMICOLON : ILLEGAL;
-                end++;
+                return;
             }
+            takeLetters();
+            if (end > start) {
+                kind = end - start <= MAX_LETTERS ? WORD : ILLEGAL;
+                return;
+            }
+            takeDigits();
+            if (end > start) {
+                kind = end - start <= MAX_DIGITS ? NUMBER : ILLEGAL;
+                return;
+            }
+            kind = text.bytes[end] == ';' ? SEMICOLON : ILLEGAL;
+            end++;
         }
 
-        private void readWord() {
+        private void takeLetters() {
             word = 0;
-            while (end < length && isLetter(text.byteAt(end))) {
-                word = word << 8 | text.byteAt(end);
+            while (end < length && text.bytes[end] >= 'a' && text.bytes[end] <= 'z') {
+                word = word << 8 | text.bytes[end];
                 end++;
             }
-            kind = end - start <= MAX_LETTERS ? WORD : ILLEGAL;
         }
 
-        private void readNumber() {
+        private void takeDigits() {
             number = 0;
-            while (end < length && isDigit(text.byteAt(end))) {
-                number = number * 10 + text.byteAt(end) - '0';
+            while (end < length && text.bytes[end] >= '0' && text.bytes[end] <= '9') {
+                number = number * 10 + text.bytes[end] - '0';
                 end++;
             }
-            kind = end - start <= MAX_DIGITS ? NUMBER : ILLEGAL;
-        }
-
-        private static boolean isBlank(int sign) {
-            return sign == ' ' || sign == '\n';
-        }
-
-        private static boolean isLetter(int sign) {
-            return sign >= 'a' && sign <= 'z';
-        }
-
-        private static boolean isDigit(int sign) {
-            return sign >= '0' && sign <= '9';
         }
     }
 
@@ -1723,7 +1712,9 @@ public final class SpanPainter {
 
         /** Fails where the grammar wants a token of another kind. */
         private boolean failOnToken() {
-            return fail(tokens.kind == Tokens.ILLEGAL ? ILLEGAL_TOKEN : OTHER_TOKEN);
+            failure = tokens.kind == Tokens.ILLEGAL ? ILLEGAL_TOKEN : OTHER_TOKEN;
+            failedAt = tokens.start;
+            return false;
         }
 
         private static boolean isReserved(long word) {
