@@ -2,6 +2,7 @@ import java.lang.reflect.InvocationTargetException;
 import java.lang.reflect.Method;
 import java.util.Arrays;
 import java.util.Comparator;
+import java.util.function.IntToDoubleFunction;
 
 /** Compares answers with those that are due, counts the wrong ones, and makes the bridges of the tests. */
 final class Due {
@@ -22,13 +23,13 @@ final class Due {
 
     private Due() { }
 
-    /** Runs all static methods of a class whose names begin with promise, and ends the program. */
+    /** Runs all static methods of a class whose names begin with promise or section, and ends the program. */
     static void runAll(Class<?> tests) throws Exception {
         Method[] methods = tests.getDeclaredMethods();
         Arrays.sort(methods, Comparator.comparing(Method::getName));
         int count = 0;
         for (Method method : methods) {
-            if (method.getName().startsWith("promise")) {
+            if (method.getName().startsWith("promise") || method.getName().startsWith("section")) {
                 test = method.getName();
                 method.setAccessible(true);
                 count++;
@@ -71,25 +72,36 @@ final class Due {
     }
 
     private static void fails(String what, Call call, Class<?> due) {
-        String got;
-        try {
-            got = told(call.make());
-        } catch (RuntimeException thrown) {
-            // An index of a Java array or list would throw one of the subclasses.
-            if (thrown.getClass() == due) {
-                return;
-            }
-            got = thrown.toString();
-        }
-        wrong++;
-        System.out.println(test + ": " + what + " answered " + got + ", due is a " + due.getName());
+        text(what, outcome(call), due.getName());
     }
 
-    /** Calls with each index that is not below count (and some above and below). */
-    static void noIndexBeyond(String what, int count, java.util.function.IntToDoubleFunction call) {
-        for (int index : new int[] {-1, count, count + 1, 31, 32, 1000, Integer.MIN_VALUE, Integer.MAX_VALUE}) {
+    /** What a call answers, or the name of what it throws; an index of a Java array would throw one of the subclasses. */
+    static String outcome(Call call) {
+        try {
+            return told(call.make());
+        } catch (RuntimeException thrown) {
+            return thrown.getClass().getName();
+        }
+    }
+
+    /** Calls with indexes that do not exist: the nearest ones, and such as wrap around to one that does. */
+    static void noIndexBeyond(String what, int count, IntToDoubleFunction call) {
+        int[] indexes = {-1, count, count + 1, 16, 31, 32, 33, 256, 1000, 65536, -16, -32, -256, Integer.MIN_VALUE,
+            Integer.MIN_VALUE + 1, Integer.MAX_VALUE};
+        for (int index : indexes) {
             if (index < 0 || index >= count) {
                 noIndex(what + " with " + index, () -> call.applyAsDouble(index));
+            }
+        }
+    }
+
+    /** Calls with values out of a range: the nearest ones, and such as wrap around to one in the range. */
+    static void noArgumentBeyond(String what, int least, int most, IntToDoubleFunction call) {
+        int[] values = {least - 1, most + 1, least + 256, most + 256, least + 65536, least - 256, -most - 1, Integer.MIN_VALUE,
+            Integer.MIN_VALUE + least, Integer.MAX_VALUE};
+        for (int value : values) {
+            if (value < least || value > most) {
+                noArgument(what + " with " + value, () -> call.applyAsDouble(value));
             }
         }
     }

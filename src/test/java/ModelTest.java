@@ -29,6 +29,8 @@ public final class ModelTest {
 
     private final Numbers numbers;
     private final long seed;
+    /** Whether the bridges have numbers near the ends of their ranges, and all indexes are as likely. */
+    private final boolean extreme;
     private final SpanPainter painter = new SpanPainter();
     private final Model model = new Model();
     private final List<String> done = new ArrayList<>();
@@ -38,6 +40,7 @@ public final class ModelTest {
     private ModelTest(long seed) {
         this.seed = seed;
         this.numbers = new Numbers(seed);
+        this.extreme = seed % 5 == 0;
     }
 
     public static void main(String[] arguments) throws Exception {
@@ -56,13 +59,13 @@ public final class ModelTest {
     }
 
     private boolean run() throws Exception {
-        if (numbers.percent(95) && !load(Texts.legal(numbers))) {
+        if (numbers.percent(95) && !load(legalText())) {
             return false;
         }
         for (int call = 0; call < CALLS_OF_A_RUN && calls < CALLS_OF_AN_OBJECT - 60; call++) {
             boolean same;
             if (numbers.percent(2)) {
-                same = load(numbers.percent(30) ? Texts.legal(numbers) : Texts.broken(numbers));
+                same = load(numbers.percent(30) ? legalText() : Texts.broken(numbers));
             } else if (numbers.percent(1)) {
                 same = call("feed", anyInts(5));
             } else {
@@ -73,6 +76,10 @@ public final class ModelTest {
             }
         }
         return true;
+    }
+
+    private String legalText() {
+        return extreme ? Texts.extreme(numbers) : Texts.legal(numbers);
     }
 
     private Object[] anyInts(int count) {
@@ -136,6 +143,9 @@ public final class ModelTest {
         if (numbers.percent(1)) {
             return numbers.percent(50) ? Integer.MIN_VALUE : Integer.MAX_VALUE;
         }
+        if (extreme) {
+            return extremeArgument(kind);
+        }
         return switch (kind) {
             case 'y' -> numbers.percent(85) ? numbers.from(0, 4) : numbers.from(-1, 12);
             case 's' -> numbers.percent(85) ? numbers.from(0, 4) : numbers.from(-1, 12);
@@ -146,6 +156,17 @@ public final class ModelTest {
             case 'u' -> numbers.from(0, 5);
             case 't' -> numbers.percent(80) ? numbers.from(1, 30) : numbers.from(0, 51);
             default -> numbers.percent(70) ? numbers.from(1, 4) : numbers.from(0, 51);
+        };
+    }
+
+    private int extremeArgument(char kind) {
+        return switch (kind) {
+            case 'y', 's', 'i' -> numbers.percent(95) ? numbers.from(0, 11) : numbers.from(-1, 12);
+            case 'l' -> numbers.percent(95) ? numbers.from(0, 3) : numbers.from(-1, 4);
+            case 'g' -> numbers.percent(95) ? numbers.from(0, 4) : numbers.from(-1, 5);
+            case 'd' -> numbers.nearEnd(-1, 201);
+            case 'u' -> numbers.nearEnd(0, 5);
+            default -> numbers.nearEnd(0, 51);
         };
     }
 

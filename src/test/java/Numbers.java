@@ -19,6 +19,15 @@ final class Numbers {
         return least + below(most - least + 1);
     }
 
+    /** A number from least to most, in most cases one of these or beside them. */
+    int nearEnd(int least, int most) {
+        int drawn = below(100);
+        if (drawn < 20) {
+            return from(least, most);
+        }
+        return drawn < 50 ? least : drawn < 80 ? most : drawn < 90 ? least + 1 : most - 1;
+    }
+
     /** True in so many of 100 cases. */
     boolean percent(int cases) {
         return below(100) < cases;

@@ -155,7 +155,7 @@ public final class TextTest {
     }
 
     /** The text with a bar where the error is; a text without a bar is legal. */
-    private static void error(int kind, String marked) {
+    static void error(int kind, String marked) {
         int bar = marked.indexOf('|');
         String text = bar < 0 ? marked : marked.substring(0, bar) + marked.substring(bar + 1);
         SpanPainter painter = new SpanPainter();

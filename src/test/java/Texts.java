@@ -21,6 +21,42 @@ final class Texts {
         return text;
     }
 
+    /** A legal text with many lanes, spans and gangs, most numbers of which are at or beside the ends of their ranges. */
+    static String extreme(Numbers numbers) {
+        List<String> made;
+        do {
+            made = extremeStatements(numbers);
+        } while (String.join("", made).length() > 900);
+        return String.join("", made);
+    }
+
+    private static List<String> extremeStatements(Numbers numbers) {
+        List<String> made = new ArrayList<>();
+        int years = numbers.nearEnd(1, 12);
+        made.add("bridge " + years + " " + numbers.nearEnd(1, 4) + " " + numbers.nearEnd(0, 10) + ";");
+        int lanes = numbers.nearEnd(0, 4);
+        for (int lane = 0; lane < lanes; lane++) {
+            made.add("lane l" + letter(lane) + " " + numbers.nearEnd(0, 999) + ";");
+        }
+        int spans = numbers.nearEnd(0, 12);
+        for (int span = 0; span < spans; span++) {
+            String lane = lanes == 0 || numbers.percent(20) ? "none" : "l" + letter(numbers.below(lanes));
+            made.add("span s" + letter(span) + " " + lane + " " + numbers.nearEnd(1, 99) + " " + numbers.nearEnd(0, 100) + " "
+                    + numbers.nearEnd(1, 50) + " " + numbers.nearEnd(1, 100) + ";");
+        }
+        int gangs = numbers.nearEnd(0, 5);
+        for (int gang = 0; gang < gangs; gang++) {
+            made.add("gang g" + letter(gang) + " " + numbers.nearEnd(1, 50) + " " + numbers.nearEnd(0, 99) + ";");
+        }
+        for (int count = numbers.below(15); count > 0; count--) {
+            made.add("weather " + numbers.below(years) + " " + numbers.nearEnd(0, 200) + ";");
+        }
+        for (int count = lanes == 0 ? 0 : numbers.below(6); count > 0; count--) {
+            made.add("closed l" + letter(numbers.below(lanes)) + " " + numbers.below(years) + ";");
+        }
+        return made;
+    }
+
     private static List<String> statements(Numbers numbers) {
         List<String> made = new ArrayList<>();
         int years = 8;
