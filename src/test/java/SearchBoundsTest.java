@@ -24,6 +24,22 @@ public final class SearchBoundsTest {
         return text.toString();
     }
 
+    // ---- what it is
+
+    /** "An object is used for at most 512 calls": the dearest ones end, and the 512th answers as the first one did. */
+    static void sectionWhatItIsOf512Calls() {
+        String text = Bridges.largest(0, "99 100 50 1") + Bridges.weather(100);
+        int fed = (text.length() + 19) / 20;
+        SpanPainter days = Due.bridge(text + "closed la 11;");
+        SpanPainter gangs = Due.bridge(text);
+        SpanPainter search = longSearch(8);
+        for (int call = fed + 2; call <= 512; call++) {
+            Due.is("extraDays()", days.extraDays(), Due.NOT_FOUND);
+            Due.is("fewestGangs()", gangs.fewestGangs(), 1);
+            Due.is("hasSafePlan()", search.hasSafePlan(), Due.GIVEN_UP);
+        }
+    }
+
     // ---- AUTOMATIC PLAN
 
     /** "The first of these years being at most y + 2": a span that is past at p is painted at p - 2, or else at 0. */

@@ -524,6 +524,27 @@ public final class TextBoundsTest {
         Due.noArgumentBeyond("load", 0, 0, new SpanPainter()::load);
     }
 
+    /** A new object has nothing of those before it, nor of those that are used by turns with it. */
+    static void promise01TwoObjects() {
+        SpanPainter one = Due.bridge(Bridges.largest(0, "99 100 50 1") + "paint 11 sl ge;");
+        one.setShut(1);
+        one.write();
+        Due.load(one, "?");
+        one.feed(BLANKS, BLANKS, BLANKS, BLANKS, BLANKS);
+        SpanPainter other = new SpanPainter();
+        Due.text("a new object", Story.of(other, 8, 0, 0, 0), Story.of(new SpanPainter(), 8, 0, 0, 0));
+        Due.noArgumentBeyond("load", 0, 0, other::load);
+        Due.noIndexBeyond("outputByte", 0, other::outputByte);
+        Due.is("undo()", other.undo(), Due.NOT_FOUND);
+        Due.is("load", Due.load(other, "span a none 1 7 1 9;"), 1);
+        other.setWeather(0, 0);
+        other.autoPast();
+        Due.is("errorKind()", one.errorKind(), 1);
+        Due.is("load(20)", one.load(20), 0);
+        Due.is("rustBefore(0, 0)", other.rustBefore(0, 0), 7);
+        Due.is("undo()", other.undo(), 0);
+    }
+
     /** "FULL if there would be more than 900 (nothing is appended)." */
     static void promise02FullBuffer() {
         SpanPainter painter = new SpanPainter();
