@@ -60,11 +60,11 @@ public final class EditBoundsTest {
     }
 
     /** That a call answers so and changes neither an answer, nor the output, nor any of the 16 edits that can be undone. */
-    private static void changesNothing(String what, String due, Act act) {
+    private static void changesNothing(String what, Act latestEdit, String due, Act act) {
         SpanPainter painter = edited();
         SpanPainter other = edited();
-        painter.setShut(1);
-        other.setShut(1);
+        latestEdit.make(painter);
+        latestEdit.make(other);
         painter.write();
         int last = plan(other).length() - 1;
         Due.text(what, Due.outcome(() -> act.make(painter)), due);
@@ -77,6 +77,14 @@ public final class EditBoundsTest {
         }
         Due.is("the last undo() behind " + what, painter.undo(), Due.NOT_FOUND);
         Due.text("all answers behind " + what + " and undo()", story(painter), story(other));
+    }
+
+    private static void changesNothing(String what, Act latestEdit, int due, Act act) {
+        changesNothing(what, latestEdit, String.valueOf(due), act);
+    }
+
+    private static void changesNothing(String what, String due, Act act) {
+        changesNothing(what, painter -> painter.setShut(1), due, act);
     }
 
     private static void changesNothing(String what, int due, Act act) {
@@ -109,16 +117,72 @@ public final class EditBoundsTest {
         }
     }
 
-    /** "... changes nothing": the calls that are no edits. */
+    /** "... changes nothing": all calls that are no edits, one after the other. */
     static void sectionErrorsAndEditsNoIndexInQuestions() {
-        changesNothing("pastSpans", NO_INDEX, painter -> painter.pastSpans(3));
-        changesNothing("refusal", NO_INDEX, painter -> painter.refusal(0, 0, 2));
-        changesNothing("bestPainting", NO_INDEX, painter -> painter.bestPainting(3));
-        changesNothing("needlessPaintings", NO_INDEX, painter -> painter.needlessPaintings(-1));
-        changesNothing("autoPastWithout", NO_INDEX, painter -> painter.autoPastWithout(2));
-        changesNothing("urgent", NO_INDEX, painter -> painter.urgent(3));
-        changesNothing("outputByte", NO_INDEX, painter -> painter.outputByte(-1));
-        changesNothing("latestPainting", Due.NOT_FOUND, painter -> painter.latestPainting(0, -1));
+        for (int bad : new int[] {-1, 12}) {
+            SpanPainter painter = edited();
+            String before = story(edited());
+            int size = painter.write();
+            askAboutSpans(painter, bad);
+            askAboutWork(painter, bad);
+            Due.noIndex("urgent", () -> painter.urgent(bad));
+            Due.noIndex("autoPastWithout", () -> painter.autoPastWithout(bad));
+            Due.noIndex("outputByte", () -> painter.outputByte(bad < 0 ? bad : size));
+            Due.is("latestPainting", painter.latestPainting(0, bad), Due.NOT_FOUND);
+            Due.text("all answers", story(painter), before);
+            Due.is("the last byte", painter.outputByte(size - 1), ';');
+            for (int left = 15; left >= 0; left--) {
+                Due.is("undo()", painter.undo(), left);
+            }
+            Due.is("undo()", painter.undo(), Due.NOT_FOUND);
+        }
+    }
+
+    private static void askAboutSpans(SpanPainter painter, int bad) {
+        Due.noIndex("rustBefore span", () -> painter.rustBefore(bad, 0));
+        Due.noIndex("rustBefore year", () -> painter.rustBefore(0, bad));
+        Due.noIndex("rustAfter span", () -> painter.rustAfter(bad, 0));
+        Due.noIndex("rustAfter year", () -> painter.rustAfter(0, bad));
+        Due.noIndex("guardLeft span", () -> painter.guardLeft(bad, 0));
+        Due.noIndex("guardLeft year", () -> painter.guardLeft(0, bad));
+        Due.noIndex("pastYear", () -> painter.pastYear(bad));
+        Due.noIndex("pastSpans", () -> painter.pastSpans(bad));
+        Due.noIndex("rustiest", () -> painter.rustiest(bad));
+        Due.noIndex("averageRust", () -> painter.averageRust(bad));
+        Due.noIndex("unpaintedPast", () -> painter.unpaintedPast(bad));
+        Due.noIndex("coatsNeeded", () -> painter.coatsNeeded(bad));
+        Due.noIndex("latestPainting", () -> painter.latestPainting(bad, 0));
+        Due.noIndex("harmlessRate", () -> painter.harmlessRate(bad));
+        Due.noIndex("effort span", () -> painter.effort(bad, 0));
+        Due.noIndex("effort year", () -> painter.effort(0, bad));
+    }
+
+    private static void askAboutWork(SpanPainter painter, int bad) {
+        Due.noIndex("capacity gang", () -> painter.capacity(bad, 0));
+        Due.noIndex("capacity year", () -> painter.capacity(0, bad));
+        Due.noIndex("loadOf gang", () -> painter.loadOf(bad, 0));
+        Due.noIndex("loadOf year", () -> painter.loadOf(0, bad));
+        Due.noIndex("gangOf span", () -> painter.gangOf(bad, 0));
+        Due.noIndex("gangOf year", () -> painter.gangOf(0, bad));
+        Due.noIndex("paintedSpans", () -> painter.paintedSpans(bad));
+        Due.noIndex("lanesShut", () -> painter.lanesShut(bad));
+        Due.noIndex("daysUsed gang", () -> painter.daysUsed(bad, 0));
+        Due.noIndex("daysUsed year", () -> painter.daysUsed(0, bad));
+        Due.noIndex("laneDays lane", () -> painter.laneDays(bad, 0));
+        Due.noIndex("laneDays year", () -> painter.laneDays(0, bad));
+        Due.noIndex("trafficLoss", () -> painter.trafficLoss(bad));
+        Due.noIndex("wages", () -> painter.wages(bad));
+        Due.noIndex("idleDays", () -> painter.idleDays(bad));
+        Due.noIndex("refusal year", () -> painter.refusal(bad, 0, 0));
+        Due.noIndex("refusal span", () -> painter.refusal(0, bad, 0));
+        Due.noIndex("refusal gang", () -> painter.refusal(0, 0, bad));
+        Due.noIndex("possibleGangs year", () -> painter.possibleGangs(bad, 0));
+        Due.noIndex("possibleGangs span", () -> painter.possibleGangs(0, bad));
+        Due.noIndex("firstPossible", () -> painter.firstPossible(bad));
+        Due.noIndex("bestPainting", () -> painter.bestPainting(bad));
+        Due.noIndex("shutYears", () -> painter.shutYears(bad));
+        Due.noIndex("needlessPaintings", () -> painter.needlessPaintings(bad));
+        Due.noIndex("sufficientSpeed", () -> painter.sufficientSpeed(bad));
     }
 
     /** "A parameter that is out of its range throws IllegalArgumentException": one too small, one too large. */
@@ -190,6 +254,37 @@ public final class EditBoundsTest {
         changesNothing("setClosed", Due.UNCHANGED, painter -> painter.setClosed(1, 2, false));
         changesNothing("setRate", Due.UNCHANGED, painter -> painter.setRate(1, 30));
         changesNothing("setSpeed", Due.UNCHANGED, painter -> painter.setSpeed(1, 2));
+    }
+
+    /** "A call that fails ... changes nothing": the plans that cannot be made, or are there already. */
+    static void sectionErrorsAndEditsOfWholePlans() {
+        changesNothing("applySafePlan of no safe plan", painter -> painter.setWeather(0, 0), Due.NOT_FOUND,
+                painter -> painter.applySafePlan());
+        changesNothing("applySafePlan of this plan", painter -> painter.applySafePlan(), Due.UNCHANGED,
+                painter -> painter.applySafePlan());
+        changesNothing("autoPlan of this plan", painter -> painter.autoPlan(), Due.UNCHANGED, painter -> painter.autoPlan());
+        SpanPainter painter = edited();
+        for (int left = 15; left >= 0; left--) {
+            painter.undo();
+        }
+        Due.is("undo() of no edit", painter.undo(), Due.NOT_FOUND);
+        Due.text("all answers behind undo()", story(painter), story(Due.bridge(BRIDGE)));
+    }
+
+    /** "A call that fails ... changes nothing": GIVEN_UP, with a full history. */
+    static void sectionErrorsAndEditsGivenUp() {
+        SpanPainter painter = SearchBoundsTest.longSearch(8);
+        for (int days = 0; days < 20; days++) {
+            painter.setWeather(11, 200 - days);
+        }
+        Due.is("applySafePlan()", painter.applySafePlan(), Due.GIVEN_UP);
+        Due.is("paintings()", painter.paintings(), 0);
+        Due.is("pastCount()", painter.pastCount(), 10);
+        for (int left = 15; left >= 0; left--) {
+            Due.is("capacity(0, 11)", painter.capacity(0, 11), 196 - left);
+            Due.is("undo()", painter.undo(), left);
+        }
+        Due.is("undo()", painter.undo(), Due.NOT_FOUND);
     }
 
     /** "Load() empties the buffer and stores the error of the text when it returns BAD_TEXT", and changes nothing else. */
@@ -270,6 +365,26 @@ public final class EditBoundsTest {
             }
             Due.is("undo()", painter.undo(), Due.NOT_FOUND);
         }
+    }
+
+    /** What an edit did not change stays behind undo(): that of the last year, span, lane and gang, too. */
+    static void promise54UndoChangesNothingElse() {
+        SpanPainter painter = Due.bridge(Bridges.largest(0, "1 0 2 100") + "closed ld 11;closed la 5;weather 11 3;paint 11 sl ge;");
+        for (int edit = 0; edit < 20; edit++) {
+            painter.setShut(edit % 2 == 0 ? 3 : 4);
+        }
+        for (int left = 15; left >= 0; left--) {
+            Due.is("undo()", painter.undo(), left);
+        }
+        Due.is("setClosed(3, 11, true)", painter.setClosed(3, 11, true), Due.UNCHANGED);
+        Due.is("setClosed(0, 5, true)", painter.setClosed(0, 5, true), Due.UNCHANGED);
+        Due.is("setClosed(3, 10, false)", painter.setClosed(3, 10, false), Due.UNCHANGED);
+        Due.is("setWeather(11, 3)", painter.setWeather(11, 3), Due.UNCHANGED);
+        Due.is("setWeather(10, 100)", painter.setWeather(10, 100), Due.UNCHANGED);
+        Due.is("setRate(11, 2)", painter.setRate(11, 2), Due.UNCHANGED);
+        Due.is("setSpeed(4, 50)", painter.setSpeed(4, 50), Due.UNCHANGED);
+        Due.is("gangOf(11, 11)", painter.gangOf(11, 11), 4);
+        Due.is("paintings()", painter.paintings(), 1);
     }
 
     /** "Undo" is no edit: what is undone cannot come back. */

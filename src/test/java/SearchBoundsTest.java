@@ -127,6 +127,22 @@ public final class SearchBoundsTest {
                 "0:0/0;0:1/1;0:2/1;");
     }
 
+    /** "The least capacity left after it": that of this year and behind the gang's own load, whatever its days are. */
+    static void sectionAutomaticPlanCapacityLeft() {
+        // in year 0, g alone can take a (30 of 40); for b (5) it has 5 left then, and f has 15
+        String text = "bridge 3 1 10;span a none 30 0 50 49;span b none 5 0 50 49;gang f 2 1;gang g 4 1;weather 0 10;";
+        automatic(text, "0:0/1;0:1/1;");
+        automatic(text + "weather 1 1;weather 2 200;", "0:0/1;0:1/1;");
+        automatic(text + "weather 1 0;weather 2 0;", "0:0/1;0:1/1;");
+        // a and b cannot be painted before year 1; then f has 7 of 10 left behind b (3), and g has 40 - 3 less that of a
+        String later = "bridge 3 1 10;lane l 1;span b l 2 0 50 99;gang f 1 1;gang g 4 1;weather 1 10;closed l 0;span a l ";
+        automatic(later + "15 1 50 99;", "1:0/0;1:1/1;");
+        automatic(later + "15 1 50 99;weather 0 0;weather 2 0;", "1:0/0;1:1/1;");
+        for (int area = 18; area <= 22; area++) {
+            automatic(later + area + " 1 50 99;", "1:0/" + (area < 21 ? 0 : 1) + ";1:1/1;");
+        }
+    }
+
     /** "Its painting is not refused": each reason keeps a candidate from being painted in a year. */
     static void sectionAutomaticPlanRefusals() {
         String start = "bridge 2 1 10;lane k 1;lane l 1;gang g 1 1;span a k 10 40 10 49;span b l 10 40 10 49;";
@@ -192,6 +208,23 @@ public final class SearchBoundsTest {
         }
     }
 
+    /** "If it fails there, it continues with the next try": what was chosen before is not painted any more. */
+    static void sectionSafePlanGoesBack() {
+        // b comes first and is tried in 0, but a can be painted in 0 alone, where the days are enough for one
+        SpanPainter painter = Due.bridge("bridge 4 2 10;lane l 1;span a l 10 47 1 50;span b none 10 48 1 50;gang g 1 1;weather 0 15;"
+                + closed("l", 1, 3));
+        Due.is("searchTries()", painter.searchTries(), 1 + 4 + 1 + 1);
+        Due.is("applySafePlan()", painter.applySafePlan(), 2);
+        Due.text("the plan", Due.plan(painter), "0:0/0;1:1/0;");
+        // two steps back: c, b, a in this order; a can be painted in 0 alone, b in 0 and 1
+        SpanPainter two = Due.bridge("bridge 4 3 10;lane l 1;lane m 1;span a l 10 47 1 50;span b m 10 48 1 50;span c none 10 49 1 50;"
+                + "gang g 1 1;weather 0 15;weather 1 15;weather 2 15;" + closed("l", 1, 3) + closed("m", 2, 3));
+        Due.is("no place for c at 0 or 1", two.hasSafePlan(), 0);
+        two.setWeather(1, 35);
+        Due.is("c and b at 1", two.applySafePlan(), 3);
+        Due.text("the plan", Due.plan(two), "0:0/0;1:1/0;1:2/0;");
+    }
+
     /** "Exactly one painting of each endangered span and no others": whatever is painted now. */
     static void sectionSafePlanOfEndangeredSpans() {
         String text = "bridge 2 1 10;gang g 9 1;span a none 1 49 1 51;span b none 1 49 1 50;span c none 1 50 1 52;span d none 1 50 1 51;";
@@ -219,7 +252,7 @@ public final class SearchBoundsTest {
      * b to g at 1 and z at 0: 1 + 12 + 1 tries. The last two spans are painted in the first year in which their lanes are
      * open, 7 and openFrom: these are 8 and openFrom + 1 tries.
      */
-    private static SpanPainter longSearch(int openFrom) {
+    static SpanPainter longSearch(int openFrom) {
         StringBuilder text = new StringBuilder("bridge 12 4 10;" + Bridges.lanes(1) + "gang x 1 1;weather 0 20;span a none " + pastAt(10, 3));
         int[] past = {3, 3, 4, 4, 4, 4};
         for (int span = 0; span < past.length; span++) {
@@ -360,6 +393,26 @@ public final class SearchBoundsTest {
         Due.is("the fourth", Due.bridge(start + "12 1;gang e 12 1;").fewestGangs(), 8);
     }
 
+    /** All gangs but one are needed, of one to five gangs: the first, the last or another one is not. */
+    static void promise62FewestGangsAllButOne() {
+        for (int count = 1; count <= 5; count++) {
+            for (int other = 0; other < count; other++) {
+                StringBuilder text = new StringBuilder("bridge 1 1 10;weather 0 5;");
+                for (int gang = 0; gang < count; gang++) {
+                    text.append("gang g").append((char) ('a' + gang)).append(gang == other ? " 1 1;" : " 2 1;");
+                }
+                for (int span = 1; span < count; span++) {
+                    text.append("span s").append((char) ('a' + span)).append(" none 10 0 2 1;");
+                }
+                // an effort of 10 each, capacities of 5 and 10
+                SpanPainter painter = Due.bridge(text.toString());
+                Due.is("autoPast()", painter.autoPast(), 0);
+                Due.is("all but " + other + " of " + count, painter.fewestGangs(), (1 << count) - 1 - (1 << other));
+                Due.is("criticalGang()", painter.criticalGang(), other == 0 && count > 1 ? 1 : 0);
+            }
+        }
+    }
+
     /** "The first of several": the first and the last of 12 years. */
     static void promise60WorstYearAtTheEnds() {
         for (int worst = 0; worst < 12; worst++) {
@@ -416,6 +469,30 @@ public final class SearchBoundsTest {
         Due.is("an effort of 55", last.extraDays(), 55);
         Due.is("DAYS are as before", last.setWeather(11, 0), Due.UNCHANGED);
         Due.is("DAYS are as before", last.setWeather(0, 100), Due.UNCHANGED);
+    }
+
+    /** All of the bridge but for the one setting is as it is: SHUT, and the last span's numbers, too. */
+    static void promise60To63OtherSettingsStay() {
+        String lanes = "lane k 1;lane l 1;gang g 50 1;span a k 1 0 2 1;span b l 1 0 2 1;";
+        SpanPainter painter = Due.bridge("bridge 2 1 10;" + lanes);
+        Due.is("one lane, two past at 0", painter.extraDays(), Due.NOT_FOUND);
+        Due.is("smallestShut()", painter.smallestShut(), 2);
+        Due.is("one lane, two past at 0", painter.extraDays(), Due.NOT_FOUND);
+        Due.is("two lanes", Due.bridge("bridge 2 2 10;" + lanes).extraDays(), 0);
+        // the last span alone is past, at 2; it can be painted in one of three years
+        StringBuilder text = new StringBuilder("bridge 3 1 0;lane l 1;gang g 1 1;");
+        for (int span = 0; span < 11; span++) {
+            text.append("span s").append((char) ('a' + span)).append(" none 1 0 1 3;");
+        }
+        String last = text + "span sl l 10 48 1 50;weather 0 0;weather 1 0;weather 2 8;closed l 0;closed l 1;";
+        Due.is("an effort of 15, 7 more than 8 days", Due.bridge(last).extraDays(), 7);
+        Due.is("none more", Due.bridge(last + "weather 2 15;").extraDays(), 0);
+        Due.is("the last year", Due.bridge(last + "weather 2 15;").worstYear(), 2);
+        SpanPainter guarded = Due.bridge("bridge 12 1 10;gang g 1 1;span a none 1 50 1 50;");
+        Due.is("GUARD 10: the painting of year 0 is all that is needed", guarded.worstYear(), 0);
+        Due.is("GUARD 10", guarded.extraDays(), 0);
+        guarded.setWeather(0, 0);
+        Due.is("GUARD 10", guarded.extraDays(), 1);
     }
 
     /** Other settings are compared with those of now, whatever was asked or loaded before. */

@@ -162,6 +162,62 @@ public final class WorkBoundsTest {
         Due.noIndexBeyond("lanesShut", 12, painter::lanesShut);
     }
 
+    /** One year, but 12 spans and 5 gangs. */
+    static void promise19To42InAWideBridge() {
+        SpanPainter painter = Due.bridge("bridge 1 4 0;" + Bridges.lanes(7) + Bridges.spans("10 0 1 1") + Bridges.gangs("1 2")
+                + "weather 0 30;");
+        Due.is("possibleGangs(0, 11)", painter.possibleGangs(0, 11), 31);
+        Due.is("firstPossible(11)", painter.firstPossible(11), 0);
+        for (int span = 0; span < 12; span++) {
+            Due.is("paint", painter.paint(0, span, span % 5), 0);
+        }
+        Due.is("paintedSpans(0)", painter.paintedSpans(0), 4095);
+        Due.is("lanesShut(0)", painter.lanesShut(0), 15);
+        Due.is("paintings()", painter.paintings(), 12);
+        Due.is("needlessPaintings(0)", painter.needlessPaintings(0), 4095);
+        Due.is("loadOf(4, 0)", painter.loadOf(4, 0), 20);
+        Due.is("laneDays(3, 0)", painter.laneDays(3, 0), 30);
+        Due.is("totalLoss()", painter.totalLoss(), 7 * 120);
+        Due.is("totalWages()", painter.totalWages(), 2 * 120);
+        Due.is("idleDays(4)", painter.idleDays(4), 10);
+        Due.is("shutYears(3)", painter.shutYears(3), 1);
+        Due.is("busiestYear()", painter.busiestYear(), 0);
+        Due.is("exchange(0, 11, 4)", painter.exchange(0, 11, 4), 0);
+        painter.setWeather(0, 19);
+        Due.is("overloads()", painter.overloads(), 5);
+        Due.is("firstOverload()", painter.firstOverload(), 0);
+        Due.is("sufficientSpeed(4)", painter.sufficientSpeed(4), 2);
+        Due.is("unpaint(0, 11)", painter.unpaint(0, 11), 4);
+        Due.is("bestPainting(11)", painter.bestPainting(11), Due.NOT_FOUND);
+    }
+
+    /** 12 years, but one span and one gang. */
+    static void promise19To42InALongBridge() {
+        SpanPainter painter = Due.bridge("bridge 12 1 0;lane l 3;span a l 10 0 50 100;gang g 1 5;");
+        for (int year = 0; year < 12; year++) {
+            Due.is("paint", painter.paint(year, 0, 0), 0);
+        }
+        Due.is("paintings()", painter.paintings(), 12);
+        Due.is("paintedSpans(11)", painter.paintedSpans(11), 1);
+        Due.is("totalWages()", painter.totalWages(), 5 * 120);
+        Due.is("totalLoss()", painter.totalLoss(), 3 * 120);
+        Due.is("idleDays(0)", painter.idleDays(0), 12 * 90);
+        Due.is("shutYears(0)", painter.shutYears(0), 4095);
+        Due.is("needlessPaintings(11)", painter.needlessPaintings(11), 1);
+        Due.is("busiestYear()", painter.busiestYear(), 0);
+        painter.unpaint(10, 0);
+        Due.is("busiestYear(): the effort at 11 is 15", painter.busiestYear(), 11);
+        painter.setWeather(11, 14);
+        Due.is("overloads()", painter.overloads(), 1);
+        Due.is("firstOverload()", painter.firstOverload(), 110);
+        Due.is("sufficientSpeed(0)", painter.sufficientSpeed(0), 2);
+        Due.is("firstPossible(0)", painter.firstPossible(0), 100);
+        Due.is("movePainting(0, 11, 10)", painter.movePainting(0, 11, 10), 0);
+        Due.is("bestPainting(0): the effort at 11 is 10", painter.bestPainting(0), 110);
+        painter.setWeather(11, 9);
+        Due.is("bestPainting(0)", painter.bestPainting(0), Due.NOT_FOUND);
+    }
+
     /** "The gang that paints a span in a year; NOT_FOUND if it is not painted": the first and the last gang. */
     static void promise22GangOfTheFirstAndTheLast() {
         SpanPainter painter = Due.bridge(Bridges.largest(0, "1 1 1 99") + "paint 11 sl ge;paint 0 sa ga;paint 0 sl ge;paint 11 sa ga;");
@@ -344,6 +400,16 @@ public final class WorkBoundsTest {
         SpanPainter all = Due.bridge(Bridges.largest(0, "1 100 50 1"));
         Due.is("all stay past", all.bestPainting(11), 0);
         Due.noIndexBeyond("bestPainting", 12, all::bestPainting);
+    }
+
+    /** "The possible painting of a span": its own lane, effort and paintings count, not those of other spans. */
+    static void promise39BestPaintingOfTheSpanItself() {
+        String start = "bridge 2 1 0;lane k 1;lane l 1;span a k 10 0 1 1;span b k 10 0 1 1;span c l 20 0 1 99;gang g 1 1;gang h 2 1;";
+        Due.is("its lane is closed", Due.bridge(start + "closed l 0;").bestPainting(2), 10);
+        Due.is("another lane is closed", Due.bridge(start + "closed k 0;").bestPainting(2), 0);
+        Due.is("its effort is greater", Due.bridge(start + "weather 0 10;").bestPainting(2), 1);
+        Due.is("it is painted already", Due.bridge(start + "paint 0 c h;").bestPainting(2), 10);
+        Due.is("others are painted", Due.bridge("bridge 2 2 0;" + start.substring(13) + "paint 0 a h;paint 0 b g;").bestPainting(2), 0);
     }
 
     /** The first and the last lane and year, all years and none. */
