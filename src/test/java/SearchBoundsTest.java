@@ -413,6 +413,24 @@ public final class SearchBoundsTest {
         }
     }
 
+    /** "At most autoPast()": fewer gangs may have less past spans than all. */
+    static void promise62FewestGangsBetterThanAll() {
+        // g alone can paint a, which shuts b and c out; h alone can paint b and c
+        String text = "bridge 1 1 10;weather 0 10;lane k 1;lane l 1;span a k 20 0 2 1;span b l 5 0 2 1;span c l 5 0 2 1;";
+        SpanPainter painter = Due.bridge(text + "gang h 1 1;gang g 2 1;");
+        Due.is("autoPast()", painter.autoPast(), 2);
+        Due.is("without h", painter.autoPastWithout(0), 2);
+        Due.is("without g", painter.autoPastWithout(1), 1);
+        Due.is("h, as its number is smaller", painter.fewestGangs(), 1);
+        Due.is("criticalGang()", painter.criticalGang(), 0);
+        SpanPainter turned = Due.bridge(text + "gang g 2 1;gang h 1 1;");
+        Due.is("g, as its number is smaller", turned.fewestGangs(), 1);
+        Due.is("criticalGang()", turned.criticalGang(), 1);
+        SpanPainter one = Due.bridge(text + "gang i 1 1;gang g 3 1;gang h 1 1;closed k 0;");
+        Due.is("a lane closed", one.autoPast(), 1);
+        Due.is("one of three", one.fewestGangs(), 1);
+    }
+
     /** "The first of several": the first and the last of 12 years. */
     static void promise60WorstYearAtTheEnds() {
         for (int worst = 0; worst < 12; worst++) {
@@ -448,6 +466,18 @@ public final class SearchBoundsTest {
         }
     }
 
+    /** "The smallest SHUT": a greater one may be too great. */
+    static void promise61SmallestShutBelowTooGreatOnes() {
+        // 30 days are enough for three: with SHUT 3 these are a, b and c, and d cannot be painted in year 1
+        String text = "lane k 1;lane l 1;lane m 1;span a k 10 0 1 1;span b l 10 0 1 1;span c m 10 0 1 1;span d k 10 0 1 1;"
+                + "gang g 1 1;weather 0 30;weather 1 20;closed k 1;";
+        for (int now = 1; now <= 4; now++) {
+            SpanPainter painter = Due.bridge("bridge 2 " + now + " 10;" + text);
+            Due.is("autoPast() with SHUT " + now, painter.autoPast(), now == 2 ? 0 : 1);
+            Due.is("smallestShut()", painter.smallestShut(), 2);
+        }
+    }
+
     /** "The smallest number n, 0 to 100"; "(at most 200)"; "NOT_FOUND if there is none". */
     static void promise63ExtraDaysFrom0To100() {
         // an effort of 99 and one of 99 + 2, so 99 or 200 days by a gang of SPEED 1
@@ -469,6 +499,26 @@ public final class SearchBoundsTest {
         Due.is("an effort of 55", last.extraDays(), 55);
         Due.is("DAYS are as before", last.setWeather(11, 0), Due.UNCHANGED);
         Due.is("DAYS are as before", last.setWeather(0, 100), Due.UNCHANGED);
+    }
+
+    /** "The smallest number n": more than n days may be too many. */
+    static void promise63ExtraDaysThatAreTooMany() {
+        // from 30 days on a is painted in year 0, and b, which cannot be painted in year 1, is shut out
+        String text = "bridge 2 1 10;lane k 1;lane l 1;span a k 30 1 1 2;span b l 9 0 1 1;gang g 1 1;closed l 1;";
+        SpanPainter painter = Due.bridge(text + "weather 0 5;weather 1 40;");
+        Due.is("5 days are too few", painter.autoPast(), 1);
+        Due.is("extraDays()", painter.extraDays(), 4);
+        painter.setWeather(0, 8);
+        Due.is("extraDays()", painter.extraDays(), 1);
+        painter.setWeather(0, 9);
+        Due.is("extraDays()", painter.extraDays(), 0);
+        painter.setWeather(0, 29);
+        Due.is("extraDays()", painter.extraDays(), 0);
+        painter.setWeather(0, 30);
+        Due.is("30 days are too many", painter.autoPast(), 1);
+        Due.is("extraDays()", painter.extraDays(), Due.NOT_FOUND);
+        painter.setWeather(0, 0);
+        Due.is("extraDays()", painter.extraDays(), 9);
     }
 
     /** All of the bridge but for the one setting is as it is: SHUT, and the last span's numbers, too. */

@@ -281,6 +281,21 @@ public final class WorkBoundsTest {
         Due.is("no gangs", Due.bridge("bridge 3 1 1;span a none 1 1 1 1;").busiestYear(), 0);
     }
 
+    /** "The sum of the loads of all gangs": of five gangs where there are fewer years, spans and lanes. */
+    static void promise32BusiestYearOfMoreGangs() {
+        String text = "bridge 3 1 0;span a none 10 0 1 9;span b none 10 0 1 9;" + Bridges.gangs("50 1");
+        for (int gang = 0; gang < 5; gang++) {
+            SpanPainter painter = Due.bridge(text);
+            painter.paint(1, 0, gang);
+            Due.is("gang " + gang + " alone", painter.busiestYear(), 1);
+            painter.paint(0, 0, (gang + 1) % 5);
+            Due.is("as great a load in year 0", painter.busiestYear(), 0);
+            painter.paint(2, 1, gang);
+            painter.paint(2, 0, (gang + 2) % 5);
+            Due.is("two loads", painter.busiestYear(), 2);
+        }
+    }
+
     /** "DAYS - daysUsed(), where this is greater than 0." */
     static void promise33IdleDaysDownToNothing() {
         // 10 days are used in year 0
